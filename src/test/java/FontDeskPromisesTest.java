@@ -1,0 +1,4 @@
+public final class FontDeskPromisesTest {
+    public static void main(String[] args) {
+    }
+}
