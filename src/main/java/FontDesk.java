@@ -528,8 +528,8 @@ public final class FontDesk {
      * come behind y, or what came in y's place. A pair whose own answer is needed for its answer does not end.
      */
     private static final class Endings {
-        private static final int CODES = 256;
-        private static final int SIGNS = CODES + 1;
+        private static final int CODES = Font.CODES;
+        private static final int SIGNS = Font.LEFT_EDGE + 1;
         private static final int UNKNOWN = 0;
         private static final int AWAITED = -1;
 
@@ -549,7 +549,7 @@ public final class FontDesk {
                 noteSteps(font, row);
             }
             for (int pair = 0; pair < CODES * rows && pair < steps.length; pair++) {
-                if (steps[pair] != 0 && answers[pair] == UNKNOWN && !ends(font, pair)) {
+                if (steps[pair] != 0 && stateOf(pair) == UNKNOWN && !ends(font, pair)) {
                     return false;
                 }
             }
@@ -596,7 +596,7 @@ public final class FontDesk {
         }
 
         private boolean ends(Font font, int first) {
-            int depth = await(first, 0);
+            int depth = awaitAnswer(first, 0);
             // A pair is awaited once, and is on top at most three times: anew, and behind each answer it needs.
             for (int turn = 0; turn < 3 * trail.length && depth > 0 && depth <= trail.length; turn++) {
                 int needed = answer(font, trail[depth - 1]);
@@ -605,14 +605,15 @@ public final class FontDesk {
                 } else if (stateOf(needed) == AWAITED) {
                     return false;
                 } else {
-                    depth = await(needed, depth);
+                    depth = awaitAnswer(needed, depth);
                 }
             }
             return depth == 0;
         }
 
-        private int await(int pair, int depth) {
-            if (pair >= 0 && pair < answers.length && depth < trail.length) {
+        // The depth of the trail with this pair on top.
+        private int awaitAnswer(int pair, int depth) {
+            if (pair >= 0 && pair < answers.length && depth >= 0 && depth < trail.length) {
                 answers[pair] = AWAITED;
                 trail[depth] = pair;
             }
@@ -729,7 +730,7 @@ public final class FontDesk {
         // False if the word would grow beyond the limits.
         boolean run(Font font) {
             for (int stand = 0; stand < MAX_STANDS && ahead > 0 && present <= MAX_SIGNS; stand++) {
-                int step = font.stepFor(nowCode, aheadCodes[ahead - 1]);
+                int step = font.stepFor(nowCode, nextCode());
                 if (step == NONE) {
                     goOn();
                 } else if (font.isKern(step)) {
@@ -744,6 +745,11 @@ public final class FontDesk {
             passSign();
             addUp(font);
             return true;
+        }
+
+        // The right edge's is the boundary, so NONE, which no step is for, without one.
+        private int nextCode() {
+            return ahead > 0 && ahead <= MAX_SIGNS ? aheadCodes[ahead - 1] : NONE;
         }
 
         private void kern(int amount) {

@@ -9,6 +9,8 @@ public final class FontDeskAgainstPlainTest {
     private static final int[] faults = new int[8];
     private static int words = 0;
     private static int tooLong = 0;
+    // Kept from file to file, as what an earlier one left in it must not be seen in a later one's answers.
+    private static FontDesk desk = new FontDesk();
 
     public static void main(String[] args) {
         Random random = new Random(20261115);
@@ -32,45 +34,48 @@ public final class FontDeskAgainstPlainTest {
         }
         String name = "file " + k;
         PlainFont plain = new PlainFont(bytes);
-        FontDesk desk = new FontDesk();
+        if (desk.count(0) == 32) {
+            desk = new FontDesk();
+        }
+        int font = desk.count(0);
         MetricFile.draft(desk, bytes);
         int z = random.nextInt(4) == 0 ? 0 : random.nextInt(1 + (1 << random.nextInt(28)));
         long loaded = Due.of(() -> desk.load(z));
         int fault = plain.fault(3000);
-        if (fault == 7 && loaded == 0) {
+        if (fault == 7 && loaded == font) {
             // It may only have been slow to end.
             fault = plain.fault(3000000);
         }
         faults[fault]++;
-        Due.same(name + ": load", fault == 0 ? 0 : Due.ARGUMENT, loaded);
+        Due.same(name + ": load", fault == 0 ? font : Due.ARGUMENT, loaded);
         Due.same(name + ": fault", fault, desk.fault());
-        if (fault != 0 || loaded != 0) {
+        if (fault != 0 || loaded != font) {
             return;
         }
         plain.size = z == 0 ? plain.designSize() : z;
         Due.same(name + ": size", plain.size, desk.count(4));
         Due.same(name + ": boundary", plain.boundary(), desk.count(5));
-        metrics(name, desk, plain);
+        metrics(name, font, plain);
         for (int w = 0; w < 6; w++) {
-            word(random, name, desk, plain);
+            word(random, name, font, plain);
         }
     }
 
-    private static void metrics(String name, FontDesk desk, PlainFont plain) {
+    private static void metrics(String name, int font, PlainFont plain) {
         for (int c = -1; c <= 256; c++) {
             int code = c;
             for (int what = 0; what < 6; what++) {
                 int w = what;
                 Due.is(name + ": metric", plain.there(c) ? plain.metric(c, w) : Due.INDEX,
-                    () -> desk.metric(0, code, w));
+                    () -> desk.metric(font, code, w));
             }
         }
         for (int p = 1; p < 6; p++) {
-            Due.same(name + ": parameter", plain.parameter(p), desk.parameter(0, p));
+            Due.same(name + ": parameter", plain.parameter(p), desk.parameter(font, p));
         }
     }
 
-    private static void word(Random random, String name, FontDesk desk, PlainFont plain) {
+    private static void word(Random random, String name, int font, PlainFont plain) {
         int length = random.nextInt(8) == 0 ? random.nextInt(201) : random.nextInt(12);
         byte[] text = new byte[length];
         int[] codes = java.util.stream.IntStream.range(0, 256).filter(plain::there).toArray();
@@ -86,7 +91,7 @@ public final class FontDeskAgainstPlainTest {
         if (want == null) {
             tooLong++;
         }
-        Due.is(name + ": set", want == null ? Due.STATE : want.size(), () -> desk.set(0));
+        Due.is(name + ": set", want == null ? Due.STATE : want.size(), () -> desk.set(font));
         long width = 0;
         for (int i = 0; want != null && i < want.size(); i++) {
             PlainFont.Sign sign = want.get(i);

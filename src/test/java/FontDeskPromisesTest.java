@@ -15,10 +15,13 @@ public final class FontDeskPromisesTest {
         infos();
         fractions();
         steps();
+        farSteps();
         pieces();
         faultOrder();
         endlessPrograms();
+        middlesOfPairs();
         longChainsOfPairs();
+        loadsBehindOneAnother();
         fault();
         metric();
         parameter();
@@ -66,6 +69,7 @@ public final class FontDeskPromisesTest {
     /** Characters a .. f of half a size, e with an italic; steps, kerns, a piece and parameters. */
     private static MetricFile sample() {
         MetricFile f = MetricFile.plain('a', 6);
+        f.head.set(0, 0x12345678);
         f.heights.add(ONE / 4);
         f.depths.add(ONE / 8);
         f.italics.add(-ONE / 16);
@@ -365,6 +369,18 @@ public final class FontDeskPromisesTest {
         faultIs("kern 301", 5, far.step(128, 'b', KERN + 1, 45));
     }
 
+    private static void farSteps() {
+        MetricFile far = MetricFile.plain('a', 3).step(255, 'c', 1, 44).program('a', 0);
+        for (int k = 1; k <= 299; k++) {
+            far.step(128, 'a', 0, 'a');
+        }
+        faultIs("jump to 300 of 300", 5, far);
+        far.step(128, 'b', 0, 'c');
+        faultIs("jump to 300 of 301", 0, far);
+        sets(with(far, 65536), "ab", "(c)");
+        sets(with(far.step(255, 0, 1, 44), 65536), "bb", "(c)b");
+    }
+
     private static void pieces() {
         faultIs("all parts there", 0, f -> f.pieces.set(0, MetricFile.word('a', 'b', 'c', 'd')));
         faultIs("first part", 6, f -> f.pieces.set(0, MetricFile.word('g', 0, 0, 'd')));
@@ -433,6 +449,42 @@ public final class FontDeskPromisesTest {
         faultIs("3: back behind what came of the middle", 7,
             f -> f.step(128, 'b', 3, 'c').step(128, 'c', 0, 'a').program('a', 2).steps.set(2,
                 MetricFile.word(0, 'b', 3, 'c')));
+    }
+
+    /** c comes between a and b; what the looking at a and c then leaves ahead of b must be told rightly. */
+    private static void middlesOfPairs() {
+        for (int deed : new int[] {0, 6, 5, 11, 1, 7, KERN}) {
+            MetricFile f = MetricFile.plain('a', 5);
+            f.kerns.add(5);
+            // a b to a c b; if the deed for a c leaves a ahead of b, that is a b again, but c b is not.
+            f.step(0, 'b', 3, 'c').step(128, 'c', deed, deed == KERN ? 0 : deed == 1 || deed == 7 ? 'e' : 'a');
+            f.program('a', 0);
+            faultIs("middle by " + deed, deed == 0 || deed == 6 ? 7 : 0, f);
+            // Now c b leads back to a b as well.
+            f.step(128, 'b', 1, 'a').program('c', 2);
+            faultIs("middle by " + deed + ", c b back to a b", 7, f);
+        }
+        MetricFile second = MetricFile.plain('a', 5);
+        second.step(0, 'b', 3, 'c').step(0, 'c', 2, 'd').step(128, 'd', 0, 'e').step(128, 'b', 1, 'a');
+        faultIs("a c to a d to e, e b by no step", 0, second.program('a', 0));
+        faultIs("a c to a d to e, e b to a b", 7, second.program('e', 3));
+    }
+
+    /** What one file left behind is not seen in the next one. */
+    private static void loadsBehindOneAnother() {
+        FontDesk desk = new FontDesk();
+        MetricFile endless = MetricFile.plain('a', 3).step(128, 'b', 1, 'a').program('a', 0);
+        MetricFile other = MetricFile.plain('a', 3).step(128, 'c', 1, 'b').program('a', 0);
+        MetricFile wide = MetricFile.plain(0, 256).step(128, 'b', 1, 'd').program('a', 0).program(255, 0);
+        MetricFile bare = MetricFile.plain('a', 3);
+        int fonts = 0;
+        for (MetricFile file : java.util.List.of(other, endless, other, bare, endless, wide, other, endless, wide)) {
+            MetricFile.draft(desk, file.bytes());
+            int number = fonts;
+            Due.is("one behind another", file == endless ? Due.ARGUMENT : number, () -> desk.load(9));
+            Due.is("its fault", file == endless ? 7 : 0, () -> desk.fault());
+            fonts += file == endless ? 0 : 1;
+        }
     }
 
     /** Chains of pairs that are far longer than calls could stand open. */
@@ -721,6 +773,11 @@ public final class FontDeskPromisesTest {
         Due.is("no items", -1, () -> desk.item(0, 0));
         Due.is("no width", 0, () -> desk.width());
         Due.is("used up", 0, () -> desk.count(1));
+        FontDesk fresh = with(tower, 65536);
+        word(fresh, before + "ap".repeat(90) + "p".repeat(9));
+        Due.is("1001 at once", Due.STATE, () -> fresh.set(0));
+        word(fresh, before + "ap".repeat(90) + "p".repeat(8));
+        Due.is("1000 behind it", items, () -> fresh.set(0));
     }
 
     private static void standsAtTheLimit() {
