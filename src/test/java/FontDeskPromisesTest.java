@@ -266,6 +266,8 @@ public final class FontDeskPromisesTest {
 
     private static void infos() {
         faultIs("width that is there", 0, f -> f.info('b', 1, 0x11, 4, 0));
+        faultIs("width of the first code", 3, MetricFile.plain(0, 256).info(0, 2, 0, 0, 0));
+        faultIs("width of the last code", 3, MetricFile.plain(0, 256).info(255, 2, 0, 0, 0));
         faultIs("width that is not there", 3, f -> f.info('b', 2, 0, 0, 0));
         faultIs("height that is not there", 3, f -> f.info('b', 1, 0x20, 0, 0));
         faultIs("depth that is not there", 3, f -> f.info('b', 1, 0x02, 0, 0));
@@ -426,6 +428,8 @@ public final class FontDeskPromisesTest {
             faultIs(o + " goes behind", 0, f -> f.step(128, 'b', o, 'a').program('a', 2));
             faultIs(o + " goes behind", 0, f -> f.step(128, 'a', o, 'a').program('a', 2));
         }
+        faultIs("2 round a later program", 7,
+            f -> f.step(0, 'b', 2, 'c').step(128, 'c', 2, 'b').program('f', 2).program('b', 0).program('c', 0));
         faultIs("round two pairs", 7,
             f -> f.step(128, 'b', 1, 'c').step(128, 'b', 1, 'a').program('a', 2).program('c', 3));
         faultIs("a step that an earlier one hides", 0,
@@ -887,6 +891,8 @@ public final class FontDeskPromisesTest {
             int w = what;
             Due.is("after it: count(" + what + ")", latest[what], () -> desk.count(w));
         }
+        FontDesk all = with(MetricFile.plain(0, 256), 1);
+        Due.is("all characters", 256, () -> all.count(3));
         MetricFile.draft(desk, MetricFile.plain(1, 0).step(255, 0, 0, 0).bytes());
         Due.is("a third", 2, () -> desk.load(0));
         Due.is("no characters", 0, () -> desk.count(3));
