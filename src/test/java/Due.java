@@ -6,9 +6,26 @@ final class Due {
 
     private static int wrong = 0;
     private static int asked = 0;
+    private static String sentence = "";
+    private static int askedBefore = -1;
+    private static boolean told = false;
 
     interface Call {
         long answer();
+    }
+
+    /** What is asked from here on is asked for this sentence's sake. */
+    static void begin(String next) {
+        endSentence();
+        sentence = next;
+        told = false;
+        askedBefore = asked;
+    }
+
+    private static void endSentence() {
+        if (asked == askedBefore) {
+            fail("nothing was asked");
+        }
     }
 
     /** The call's answer, or one of INDEX, ARGUMENT, STATE for the exception it throws. */
@@ -41,9 +58,17 @@ final class Due {
     static void same(String what, long want, long got) {
         asked++;
         if (got != want) {
-            wrong++;
-            System.out.println(what + " answered " + name(got) + ", due is " + name(want));
+            fail(what + " answered " + name(got) + ", due is " + name(want));
         }
+    }
+
+    static void fail(String what) {
+        wrong++;
+        if (!told && !sentence.isEmpty()) {
+            System.out.println("* " + sentence);
+        }
+        told = true;
+        System.out.println(what);
     }
 
     private static String name(long answer) {
@@ -53,6 +78,7 @@ final class Due {
     }
 
     static void end(String test) {
+        endSentence();
         System.out.println(test + ": " + asked + " answers, " + wrong + " not as due");
         if (wrong != 0 || asked == 0) {
             System.exit(1);

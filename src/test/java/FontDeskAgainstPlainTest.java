@@ -103,7 +103,7 @@ public final class FontDeskAgainstPlainTest {
         Due.same(name + ": width", width, desk.width());
     }
 
-    private static MetricFile made(Random random) {
+    static MetricFile made(Random random) {
         int characters = 1 + random.nextInt(6);
         MetricFile f = MetricFile.plain(random.nextInt(3) == 0 ? 0 : random.nextInt(257 - characters), characters);
         f.head.set(1, MetricFile.ONE + random.nextInt(1 << 28));
@@ -183,7 +183,7 @@ public final class FontDeskAgainstPlainTest {
         }
     }
 
-    private static byte[] spoiled(Random random, byte[] bytes) {
+    static byte[] spoiled(Random random, byte[] bytes) {
         byte[] b = bytes.clone();
         int at = random.nextInt(3) == 0 ? random.nextInt(32) : 28 + random.nextInt(b.length - 28);
         b[at] = (byte) (random.nextBoolean() ? random.nextInt(256) : b[at] + 1 - 2 * random.nextInt(2));
