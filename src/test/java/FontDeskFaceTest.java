@@ -1,14 +1,23 @@
+import java.io.IOException;
 import java.lang.reflect.Method;
 import java.lang.reflect.Modifier;
+import java.nio.file.Files;
+import java.nio.file.Path;
 import java.util.Arrays;
 import java.util.Set;
 import java.util.TreeSet;
 import java.util.stream.Collectors;
 import java.util.stream.Stream;
 
-/** The face is the document's and nothing more (rule 1 of LANGUAGE.md), and static state is constant (rule 5). */
+/**
+ * The face is the one that the document writes out and nothing more (rule 1 of LANGUAGE.md), and static state is
+ * constant (rule 5).
+ */
 public final class FontDeskFaceTest {
+    private static final Path DOCUMENT = Path.of("..", "shared", "DOC.md");
     private static final Set<String> FACE = new TreeSet<>(Set.of(
+        "NONE = -1",
+        "FontDesk()",
         "boolean put(long, int)",
         "int load(int) IllegalArgumentException IllegalStateException",
         "int fault()",
@@ -19,7 +28,7 @@ public final class FontDeskFaceTest {
         "long width()",
         "int count(int)"));
 
-    public static void main(String[] args) {
+    public static void main(String[] args) throws IOException {
         Class<?> desk = FontDesk.class;
         same("class", "public final", Modifier.toString(desk.getModifiers()));
         Set<String> seen = new TreeSet<>();
@@ -31,7 +40,12 @@ public final class FontDeskFaceTest {
                 names.add(m.getName());
             }
         }
+        seen.add("NONE = " + FontDesk.NONE);
+        seen.add("FontDesk()");
         same("face", FACE.toString(), seen.toString());
+        if (Files.isReadable(DOCUMENT)) {
+            same("face in the document", FACE.toString(), documented().toString());
+        }
         for (Class<?> c : Stream.concat(Stream.of(desk), Arrays.stream(desk.getDeclaredClasses())).toList()) {
             for (Method m : c.getDeclaredMethods()) {
                 boolean own = c == desk && Modifier.isPublic(m.getModifiers());
@@ -50,6 +64,20 @@ public final class FontDeskFaceTest {
         }
         same("constructors", "[public FontDesk()]", Arrays.toString(desk.getDeclaredConstructors()));
         Due.end("FontDeskFaceTest");
+    }
+
+    /** The lines of the document's face in the form of told(): without public, names of parameters, and throws. */
+    private static Set<String> documented() throws IOException {
+        Set<String> face = new TreeSet<>();
+        for (String line : Files.readAllLines(DOCUMENT)) {
+            if (line.matches("    public .*;")) {
+                String[] parts = line.strip().replaceAll("^public (static final int )?|;$", "").split(" throws ");
+                String thrown = parts.length < 2 ? "" : Arrays.stream(parts[1].split(", ")).sorted()
+                    .map(n -> " " + n).collect(Collectors.joining());
+                face.add(parts[0].replaceAll("(int|long|boolean) \\w+(?=[,)])", "$1") + thrown);
+            }
+        }
+        return face;
     }
 
     private static String told(Method m) {
